@@ -174,6 +174,8 @@ public final class CommandsTest {
         error("GIVE 00", 0);
         error("give 0 0", 6);
         error("open 00 1", 6);
+        error("shut 00 1", 6);
+        error("lift 00 1", 6);
         error("wait -1", 5);
         error(" wait 1", 0);
         error("wait /", 5);

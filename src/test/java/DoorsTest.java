@@ -206,14 +206,14 @@ public final class DoorsTest {
         for (int door = 0; door < 3; door++) {
             x.addDoor(0, 0, 0, 0);
         }
-        int[][] added = {{2, 5}, {0, 9}, {1, 5}, {2, 0}, {0, 5}, {1, 999}, {0, 0}};
+        int[][] added = {{2, 5}, {0, 9}, {1, 5}, {2, 0}, {0, 5}, {1, 999}, {0, 0}, {1, 9}, {2, 9}};
         for (int[] one : added) {
             x.addException(one[0], one[1], true);
         }
-        order(x, new int[][] {{0, 0}, {2, 0}, {0, 5}, {1, 5}, {2, 5}, {0, 9}, {1, 999}});
+        order(x, new int[][] {{0, 0}, {2, 0}, {0, 5}, {1, 5}, {2, 5}, {0, 9}, {1, 9}, {2, 9}, {1, 999}});
         x.liftException(1, 5);
         x.liftException(0, 0);
-        order(x, new int[][] {{2, 0}, {0, 5}, {2, 5}, {0, 9}, {1, 999}});
+        order(x, new int[][] {{2, 0}, {0, 5}, {2, 5}, {0, 9}, {1, 9}, {2, 9}, {1, 999}});
     }
 
     private static void order(MoonlitDoors x, int[][] due) {

@@ -160,14 +160,14 @@ public final class PersonsTest {
     private static void promise23KeyAt() {
         MoonlitDoors x = oneOfEach();
         Checks.fails("23 empty", Checks.ELEMENT, () -> x.keyAt(0, 0));
-        for (int key : new int[] {6, 1, 7, 4}) {
+        for (int key : new int[] {6, 0, 7, 4, 1}) {
             x.giveKey(0, key);
         }
-        int[] due = {1, 4, 6, 7};
-        for (int position = 0; position < 4; position++) {
+        int[] due = {0, 1, 4, 6, 7};
+        for (int position = 0; position < 5; position++) {
             Checks.due("23 position " + position, x.keyAt(0, position), due[position]);
         }
-        for (int position : new int[] {-1, 4, 8, MIN, MAX}) {
+        for (int position : new int[] {-1, 5, 8, MIN, MAX}) {
             Checks.fails("23 position " + position, Checks.ELEMENT, () -> x.keyAt(0, position));
         }
     }

@@ -6,6 +6,7 @@ public final class UndoTest {
         promise50Only();
         promise50Failures();
         promise50Program();
+        promise50Shifted();
         promise51Save();
         promise52Restore();
         promise52AndUndo();
@@ -145,6 +146,34 @@ public final class UndoTest {
         Checks.due("50 a program is one", x.undo(), 7);
         Checks.due("50 a program undone", seen(x), before);
         Checks.fails("50 buffer stays empty", Checks.ARGUMENT, x::execute);
+    }
+
+    /** Undo brings back what the modification moved or overwrote, not only what it added. */
+    private static void promise50Shifted() {
+        MoonlitDoors x = some();
+        while (x.personCount() < 6) {
+            x.addPerson();
+        }
+        for (int i = 0; i < 10; i++) {
+            x.tryDoor(i % 2, i % 3 == 0 ? 0 : 1);
+        }
+        x.addException(0, 7, false);
+        x.addException(0, 2, true);
+        String before = seen(x);
+        for (int i = 0; i < 8; i++) {
+            x.tryDoor(4 - i % 2, 0);
+        }
+        for (int i = 0; i < 8; i++) {
+            x.undo();
+        }
+        Checks.due("50 the log as it was", seen(x), before);
+        x.liftException(0, 2);
+        x.liftException(1, 3);
+        x.addException(1, 500, true);
+        for (int i = 0; i < 3; i++) {
+            x.undo();
+        }
+        Checks.due("50 the exceptions as they were", seen(x), before);
     }
 
     private static void promise51Save() {
