@@ -19,6 +19,14 @@ final class Checks {
     private Checks() {
     }
 
+    static int made() {
+        return made;
+    }
+
+    static int wrong() {
+        return wrong;
+    }
+
     static void due(String what, Object got, Object want) {
         made++;
         if (!want.equals(got)) {

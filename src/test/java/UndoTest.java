@@ -27,37 +27,6 @@ public final class UndoTest {
         return x;
     }
 
-    /** What the object answers of its state. */
-    private static String seen(MoonlitDoors x) {
-        StringBuilder text = new StringBuilder();
-        text.append(x.day()).append(' ').append(x.hour()).append(' ').append(x.phaseOn(27)).append('|');
-        for (int door = 0; door < x.doorCount(); door++) {
-            text.append(x.phasesOf(door)).append(' ').append(x.keyOf(door)).append(' ').append(x.hourCount(door));
-            text.append(x.isHourOf(door, 3)).append(x.isUnlocked(door)).append(' ').append(x.unlockedHours(door, 40));
-            for (int ago = 0; ago < 8; ago++) {
-                text.append(' ').append(x.entriesOn(door, ago)).append('/').append(x.refusalsOn(door, ago));
-            }
-            text.append('|');
-        }
-        for (int i = 0; i < x.exceptionCount(); i++) {
-            text.append(x.exceptionDoor(i)).append(' ').append(x.exceptionDay(i)).append('|');
-        }
-        for (int person = 0; person < x.personCount(); person++) {
-            for (int key = 0; key < 8; key++) {
-                text.append(x.hasKey(person, key));
-            }
-            text.append(x.entriesOf(person)).append('|');
-        }
-        for (int result = 0; result < 5; result++) {
-            text.append(x.attemptsWith(result)).append(' ');
-        }
-        for (int recency = 0; recency < 10; recency++) {
-            int one = recency;
-            text.append(Checks.outcome(() -> x.loggedPerson(one) * 100 + x.loggedDoor(one) * 10 + x.loggedResult(one)));
-        }
-        return text.toString();
-    }
-
     private interface Change {
         void make(MoonlitDoors x);
     }
@@ -72,11 +41,11 @@ public final class UndoTest {
     private static void promise50EachModification() {
         for (int i = 0; i < CHANGES.length; i++) {
             MoonlitDoors x = some();
-            String before = seen(x);
+            String before = Seen.state(x);
             CHANGES[i].make(x);
-            Checks.due("50 change " + i + " shows", seen(x).equals(before), false);
+            Checks.due("50 change " + i + " shows", Seen.state(x).equals(before), false);
             Checks.due("50 left after change " + i, x.undo(), 7);
-            Checks.due("50 change " + i + " undone", seen(x), before);
+            Checks.due("50 change " + i + " undone", Seen.state(x), before);
         }
     }
 
@@ -119,7 +88,7 @@ public final class UndoTest {
         for (int i = 0; i < 7; i++) {
             x.advance(1);
         }
-        String before = seen(x);
+        String before = Seen.state(x);
         Checks.outcome(() -> x.addDoor(-1, 0, 0, 0));
         Checks.outcome(() -> x.setRule(9, 0, 0, 0, 0));
         Checks.outcome(() -> x.addException(0, -1, true));
@@ -131,7 +100,7 @@ public final class UndoTest {
         Checks.outcome(() -> x.advance(0));
         Checks.execute(x, "wait 1;wait 0");
         Checks.execute(x, "wait 1;wait");
-        Checks.due("50 failures change nothing", seen(x), before);
+        Checks.due("50 failures change nothing", Seen.state(x), before);
         for (int left = 7; left >= 0; left--) {
             Checks.due("50 failures are none", x.undo(), left);
         }
@@ -141,10 +110,10 @@ public final class UndoTest {
 
     private static void promise50Program() {
         MoonlitDoors x = some();
-        String before = seen(x);
+        String before = Seen.state(x);
         Checks.execute(x, "wait 1;wait 1;wait 1;wait 1;wait 1;wait 1;wait 1;wait 1");
         Checks.due("50 a program is one", x.undo(), 7);
-        Checks.due("50 a program undone", seen(x), before);
+        Checks.due("50 a program undone", Seen.state(x), before);
         Checks.fails("50 buffer stays empty", Checks.ARGUMENT, x::execute);
     }
 
@@ -159,21 +128,21 @@ public final class UndoTest {
         }
         x.addException(0, 7, false);
         x.addException(0, 2, true);
-        String before = seen(x);
+        String before = Seen.state(x);
         for (int i = 0; i < 8; i++) {
             x.tryDoor(4 - i % 2, 0);
         }
         for (int i = 0; i < 8; i++) {
             x.undo();
         }
-        Checks.due("50 the log as it was", seen(x), before);
+        Checks.due("50 the log as it was", Seen.state(x), before);
         x.liftException(0, 2);
         x.liftException(1, 3);
         x.addException(1, 500, true);
         for (int i = 0; i < 3; i++) {
             x.undo();
         }
-        Checks.due("50 the exceptions as they were", seen(x), before);
+        Checks.due("50 the exceptions as they were", Seen.state(x), before);
     }
 
     private static void promise51Save() {
@@ -194,12 +163,12 @@ public final class UndoTest {
         Checks.fails("52 none", Checks.STATE, none::restore);
         Checks.due("52 a failure leaves undo", none.undo(), 7);
         MoonlitDoors x = some();
-        String before = seen(x);
+        String before = Seen.state(x);
         x.save();
         for (Change change : CHANGES) {
             change.make(x);
             Checks.due("52 attempts", x.restore(), 2);
-            Checks.due("52 restored", seen(x), before);
+            Checks.due("52 restored", Seen.state(x), before);
             Checks.fails("52 nothing to undo", Checks.STATE, x::undo);
         }
         for (Change change : CHANGES) {
@@ -209,7 +178,7 @@ public final class UndoTest {
             });
         }
         x.restore();
-        Checks.due("52 kept", seen(x), before);
+        Checks.due("52 kept", Seen.state(x), before);
     }
 
     private static void promise52AndUndo() {
