@@ -5,6 +5,7 @@ public final class AuditsTest {
     public static void main(String[] args) {
         promises37And38Days();
         promises37And38Forgotten();
+        promises37And38EveryDoor();
         promises37And38Wrong();
         promises39To41Log();
         promise42AttemptsWith();
@@ -69,6 +70,37 @@ public final class AuditsTest {
         x.undo();
         Checks.due("37 back by undo", x.entriesOn(0, 0), 2);
         Checks.due("38 back by undo", x.refusalsOn(0, 0), 2);
+    }
+
+    private static void promises37And38EveryDoor() {
+        MoonlitDoors x = new MoonlitDoors();
+        x.addPerson();
+        x.giveKey(0, 1);
+        for (int door = 0; door < 8; door++) {
+            x.addDoor(255, 0, 23, door < 4 ? 0 : 1);
+        }
+        for (int day = 0; day < 20; day++) {
+            for (int i = 0; i < 8; i++) {
+                x.tryDoor(0, (day * 3 + i * i) % 8);
+            }
+            for (int door = 0; door < 8; door++) {
+                for (int ago = 0; ago < 8; ago++) {
+                    int due = ago > day ? 0 : triedOn(day - ago, door);
+                    String place = "day " + day + " door " + door + " ago " + ago;
+                    Checks.due("37 " + place, x.entriesOn(door, ago), door < 4 ? 0 : due);
+                    Checks.due("38 " + place, x.refusalsOn(door, ago), door < 4 ? due : 0);
+                }
+            }
+            x.advance(24);
+        }
+    }
+
+    private static int triedOn(int day, int door) {
+        int times = 0;
+        for (int i = 0; i < 8; i++) {
+            times += (day * 3 + i * i) % 8 == door ? 1 : 0;
+        }
+        return times;
     }
 
     private static void promises37And38Wrong() {

@@ -47,6 +47,10 @@ final class BoundariesOfCommands {
             x.addException(7, 0, true);
             x.setRule(7, 255, 22, 23, 0);
             Checks.due("opened, the longest one", Checks.notice(x, 7), "d7 01234567 22-23 k0!");
+            x.advance(24);
+            Checks.due("unlocked no longer", Checks.notice(x, 7), "d7 01234567 22-23 k0");
+            x.advance(22);
+            Checks.due("unlocked by its rule", Checks.notice(x, 7), "d7 01234567 22-23 k0!");
         });
         Sentences.test(44, Boundary.NO_DOOR, () -> {
             Boundary.noSuchDoor(MoonlitDoors::writeNotice);
@@ -128,6 +132,11 @@ final class BoundariesOfCommands {
             malformed("wait 1; wait 1", 7);
             malformed("wait 1 ;wait 1", 6);
             malformed("wait 1,wait 1", 6);
+            malformed("wait 1wait 1", 6);
+            malformed("wait 240wait 1", 8);
+            malformed("give 00give 01", 7);
+            malformed("shut 0 1take 00", 8);
+            malformed("wait 1;try 00try 00", 13);
             for (int commands = 1; commands <= 8; commands++) {
                 Checks.due("commands", Checks.execute(new MoonlitDoors(), (SEVEN + "wait 1;").substring(0, commands * 7 - 1)), commands);
             }

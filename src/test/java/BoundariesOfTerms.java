@@ -335,48 +335,73 @@ final class BoundariesOfTerms {
     private static void counted() {
         MoonlitDoors x = Boundary.world(8, 1);
         Boundary.give(x, 0, 0, 2, 4, 6);
-        for (int day = 0; day < 2; day++) {
+        for (int day = 0; day < 8; day++) {
             for (int door = 0; door < 8; door++) {
-                for (int i = 0; i <= door + day; i++) {
+                for (int i = 0; i < attemptsAt(door, day); i++) {
                     x.tryDoor(0, door);
                 }
             }
-            x.advance(day == 0 ? 24 : 23);
+            x.advance(day < 7 ? 24 : 23);
         }
         for (int door = 0; door < 8; door++) {
             boolean own = door % 2 == 0;
-            for (int ago = 0; ago < 2; ago++) {
-                int due = door + 2 - ago;
+            for (int ago = 0; ago < 8; ago++) {
+                int due = attemptsAt(door, 7 - ago);
                 Checks.due("entries at " + door + " ago " + ago, x.entriesOn(door, ago), own ? due : 0);
                 Checks.due("refusals at " + door + " ago " + ago, x.refusalsOn(door, ago), own ? 0 : due);
             }
         }
     }
 
+    /** Another number for each neighbour of a day and of a door. */
+    private static int attemptsAt(int door, int day) {
+        return (door * 5 + day * 3) % 7;
+    }
+
     private static void forgotten() {
         for (int hours : new int[] {24, 168, 191, 192, 215, 216, 384, 1536}) {
-            MoonlitDoors x = Boundary.world(1, 2);
-            x.giveKey(0, 0);
-            x.tryDoor(0, 0);
-            x.tryDoor(1, 0);
+            MoonlitDoors x = everyDoorTried();
             Boundary.pass(x, hours);
-            for (int ago = 0; ago < 8; ago++) {
-                int due = ago == hours / 24 ? 1 : 0;
-                Checks.due("entries after " + hours + " ago " + ago, x.entriesOn(0, ago), due);
-                Checks.due("refusals after " + hours + " ago " + ago, x.refusalsOn(0, ago), due);
+            for (int door = 0; door < 8; door++) {
+                keptDays(x, door, hours);
             }
-            Checks.due("no result is forgotten", x.attemptsWith(0) + x.attemptsWith(2), 2);
+            Checks.due("no result is forgotten", x.attemptsWith(0) + x.attemptsWith(2), 16);
+        }
+    }
+
+    /** On day 0 the person 0 has entered each door, and the person 1 has been refused at each. */
+    private static MoonlitDoors everyDoorTried() {
+        MoonlitDoors x = Boundary.world(8, 2);
+        Boundary.give(x, 0, 0, 1, 2, 3, 4, 5, 6, 7);
+        for (int door = 0; door < 8; door++) {
+            x.tryDoor(0, door);
+            x.tryDoor(1, door);
+        }
+        return x;
+    }
+
+    private static void keptDays(MoonlitDoors x, int door, int hours) {
+        for (int ago = 0; ago < 8; ago++) {
+            int due = ago == hours / 24 ? 1 : 0;
+            String place = "at " + door + " after " + hours + " ago " + ago;
+            Checks.due("entries " + place, x.entriesOn(door, ago), due);
+            Checks.due("refusals " + place, x.refusalsOn(door, ago), due);
         }
     }
 
     private static void fullLog() {
         MoonlitDoors x = Boundary.world(8, 2);
+        for (int door = 0; door < 3; door++) {
+            x.addException(door, 0, false);
+        }
         for (int made = 1; made <= 21; made++) {
             x.tryDoor(made % 2, made % 8);
             int held = Math.min(made, 10);
             for (int recency = 0; recency < held; recency++) {
                 Checks.due("door " + recency + " of " + made, x.loggedDoor(recency), (made - recency) % 8);
                 Checks.due("person " + recency + " of " + made, x.loggedPerson(recency), (made - recency) % 2);
+                Checks.due("result " + recency + " of " + made, x.loggedResult(recency),
+                        (made - recency) % 8 < 3 ? MoonlitDoors.SHUT : MoonlitDoors.NO_KEY);
             }
             Checks.fails("behind the last of " + made, Checks.ELEMENT, () -> x.loggedDoor(held));
         }

@@ -167,7 +167,13 @@ public final class CommandsTest {
             error(text + "; ", shortest + 1);
             error(text + ";;", shortest + 1);
             error(text + ";tx", shortest + 2);
+            for (String next : whole) {
+                error(text + next, shortest);
+            }
         }
+        error("wait 1wait 1", 6);
+        error("open 0 1give 00", 8);
+        error("wait 1;try 00try 00", 13);
         error("", 0);
         error("tr", 2);
         error("ta ", 2);

@@ -11,6 +11,8 @@ public final class RandomRunsTest {
     private final String run;
     private final int wildness;
     private final int haste;
+    private final int doorsAsked;
+    private final int personsAsked;
     private MoonlitDoors doors = new MoonlitDoors();
     private Reference due = new Reference();
     private int calls = 0;
@@ -20,6 +22,8 @@ public final class RandomRunsTest {
         run = "run " + seed;
         wildness = seed % 4 == 0 ? 5 : 40;
         haste = seed % 3;
+        doorsAsked = seed % 2 == 0 ? 9 : 5;
+        personsAsked = seed % 2 == 0 ? 7 : 4;
     }
 
     public static void main(String[] args) {
@@ -30,8 +34,10 @@ public final class RandomRunsTest {
     }
 
     private void play() {
-        for (int i = 0; i < 3; i++) {
+        for (int i = 0; i < doorsAsked - 2; i++) {
             addDoor();
+        }
+        for (int i = 0; i < personsAsked - 1; i++) {
             same("addPerson", doors::addPerson, due::addPerson);
         }
         while (calls < CALLS) {
@@ -73,7 +79,7 @@ public final class RandomRunsTest {
     }
 
     private void change(int kind) {
-        int person = below(4), door = below(5), key = below(random.nextInt(2) == 0 ? 4 : 8), day = nearDay();
+        int person = below(personsAsked), door = below(doorsAsked), key = below(random.nextInt(2) == 0 ? 4 : 8), day = nearDay();
         switch (kind) {
             case 0 -> addDoor();
             case 1 -> {
@@ -109,7 +115,7 @@ public final class RandomRunsTest {
     private void lift(int day) {
         boolean known = due.exceptionCount() > 0 && random.nextInt(3) > 0;
         int position = known ? random.nextInt(due.exceptionCount()) : 0;
-        int door = known ? due.exceptionDoor(position) : below(5);
+        int door = known ? due.exceptionDoor(position) : below(doorsAsked);
         int then = known ? due.exceptionDay(position) : day;
         same("liftException", () -> doors.liftException(door, then), () -> due.liftException(door, then));
     }
@@ -170,7 +176,7 @@ public final class RandomRunsTest {
     }
 
     private void ask(int kind) {
-        int person = below(4), door = below(5), eight = below(9), position = below(12);
+        int person = below(personsAsked), door = below(doorsAsked), eight = below(9), position = below(12);
         switch (kind) {
             case 0 -> same("doorCount", doors::doorCount, due::doorCount);
             case 1 -> same("phasesOf", () -> doors.phasesOf(door), () -> due.phasesOf(door));
