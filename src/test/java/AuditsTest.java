@@ -73,32 +73,38 @@ public final class AuditsTest {
     }
 
     private static void promises37And38EveryDoor() {
-        MoonlitDoors x = new MoonlitDoors();
-        x.addPerson();
-        x.giveKey(0, 1);
-        for (int door = 0; door < 8; door++) {
-            x.addDoor(255, 0, 23, door < 4 ? 0 : 1);
-        }
-        for (int day = 0; day < 20; day++) {
-            for (int i = 0; i < 8; i++) {
-                x.tryDoor(0, (day * 3 + i * i) % 8);
+        for (int last : new int[] {0, 3, 7, 8, 9, 15}) {
+            MoonlitDoors x = new MoonlitDoors();
+            for (int door = 0; door < 8; door++) {
+                x.addDoor(255, 0, 23, 0);
+            }
+            x.addPerson();
+            x.addPerson();
+            x.giveKey(0, 0);
+            for (int day = 0; day <= last; day++) {
+                for (int i = 0; i < 12; i++) {
+                    x.tryDoor(i % 2, triedDoor(day, i));
+                }
+                x.advance(day < last ? 24 : 23);
             }
             for (int door = 0; door < 8; door++) {
                 for (int ago = 0; ago < 8; ago++) {
-                    int due = ago > day ? 0 : triedOn(day - ago, door);
-                    String place = "day " + day + " door " + door + " ago " + ago;
-                    Checks.due("37 " + place, x.entriesOn(door, ago), door < 4 ? 0 : due);
-                    Checks.due("38 " + place, x.refusalsOn(door, ago), door < 4 ? due : 0);
+                    String place = "day " + last + " door " + door + " ago " + ago;
+                    Checks.due("37 " + place, x.entriesOn(door, ago), attemptsOf(0, last - ago, door));
+                    Checks.due("38 " + place, x.refusalsOn(door, ago), attemptsOf(1, last - ago, door));
                 }
             }
-            x.advance(24);
         }
     }
 
-    private static int triedOn(int day, int door) {
+    private static int triedDoor(int day, int attempt) {
+        return (day + attempt * attempt / 3) % 8;
+    }
+
+    private static int attemptsOf(int person, int day, int door) {
         int times = 0;
-        for (int i = 0; i < 8; i++) {
-            times += (day * 3 + i * i) % 8 == door ? 1 : 0;
+        for (int i = person; i < 12 && day >= 0; i += 2) {
+            times += triedDoor(day, i) == door ? 1 : 0;
         }
         return times;
     }

@@ -9,6 +9,7 @@ public final class CommandsTest {
         promise45NoticeAt();
         promise46Type();
         promise47EachCommand();
+        promise47AsTheCalls();
         promise47AllOrNone();
         promise47Buffer();
         promise48ErrorPosition();
@@ -107,6 +108,56 @@ public final class CommandsTest {
         Checks.due("47 waited nineteen", x.hour(), 20);
     }
 
+    private interface Called {
+        Object by(MoonlitDoors x);
+    }
+
+    private static MoonlitDoors several() {
+        MoonlitDoors x = new MoonlitDoors();
+        for (int door = 0; door < 5; door++) {
+            x.addDoor(255, 3, 21, door % 3);
+            x.addException(door, door + 1, door % 2 == 0);
+        }
+        for (int person = 0; person < 4; person++) {
+            x.addPerson();
+            x.giveKey(person, person / 2);
+            x.giveKey(person, person + 3);
+        }
+        x.advance(55);
+        return x;
+    }
+
+    /** A command does what its call does, and fails where its call throws. */
+    private static void promise47AsTheCalls() {
+        for (int i = 0; i < 100; i++) {
+            int first = i / 10;
+            int second = i % 10;
+            String day = String.format(i % 3 == 0 ? "%03d" : "%d", second);
+            asCall("give " + first + second, x -> x.giveKey(first, second));
+            asCall("take " + first + second, x -> x.takeKey(first, second));
+            asCall("try " + first + second, x -> x.tryDoor(first, second));
+            asCall("open " + first + " " + day, x -> x.addException(first, second, true));
+            asCall("shut " + first + " " + day, x -> x.addException(first, second, false));
+            asCall("lift " + first + " " + day, x -> x.liftException(first, second));
+            int far = i * 10;
+            asCall("open " + first + " " + far, x -> x.addException(first, far, true));
+        }
+        for (int number = 0; number < 300; number++) {
+            int one = number;
+            asCall("moon " + number, x -> x.setCycle(one));
+            asCall("wait " + number, x -> x.advance(one));
+        }
+    }
+
+    private static void asCall(String text, Called call) {
+        MoonlitDoors x = several();
+        MoonlitDoors called = several();
+        boolean fails = Checks.outcome(() -> call.by(called)) instanceof String;
+        Checks.due("47 " + text, Checks.execute(x, text), fails ? FAILED : 1);
+        Checks.due("47 state by " + text, Seen.state(x), Seen.state(called));
+        Checks.due("47 left to undo behind " + text, x.undo(), called.undo());
+    }
+
     private static void promise47AllOrNone() {
         MoonlitDoors x = oneOfEach();
         x.addException(1, 5, true);
@@ -160,6 +211,11 @@ public final class CommandsTest {
                     error(text.substring(0, length), length);
                 }
                 error(text.substring(0, length) + "~", length);
+            }
+            for (int length = 0; length <= text.indexOf(' '); length++) {
+                error(text.substring(0, length) + "1", length);
+                error(text.substring(0, length) + "1 1", length);
+                error(text.substring(0, length) + "11", length);
             }
             error(text + "0", shortest);
             error(text + " ", shortest);

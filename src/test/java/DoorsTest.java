@@ -9,11 +9,15 @@ public final class DoorsTest {
         promise4AddException();
         promise4FullAndPast();
         promise5LiftException();
+        promise5EveryPosition();
         promise6SetCycle();
         promises7To9Rule();
+        promises3And8To11EveryDoor();
         promises10And11Hours();
         promises12And13Exceptions();
         promises14And15Order();
+        promises14And15EveryOrder();
+        promises14And15Twelve();
         Checks.finish();
     }
 
@@ -100,6 +104,10 @@ public final class DoorsTest {
         Checks.due("4 twelve", x.exceptionCount(), 12);
         x.liftException(0, 0);
         Checks.due("4 room again", x.addException(0, 20, true), 12);
+        for (int day = 1; day < 12; day++) {
+            Checks.due("4 kept of day " + day, x.liftException(0, day), day % 2 == 0);
+        }
+        Checks.due("4 kept of day 20", x.liftException(0, 20), true);
     }
 
     private static void promise5LiftException() {
@@ -120,6 +128,28 @@ public final class DoorsTest {
         x.advance(240);
         Checks.due("5 passed day", x.liftException(0, 4), false);
         Checks.due("5 none left", x.exceptionCount(), 0);
+    }
+
+    /** Lifts one of six, and then all that are left, to see what they do. */
+    private static void promise5EveryPosition() {
+        for (int lifted = 0; lifted < 6; lifted++) {
+            MoonlitDoors x = new MoonlitDoors();
+            for (int i = 0; i < 3; i++) {
+                x.addDoor(0, 0, 0, 0);
+            }
+            for (int i = 0; i < 6; i++) {
+                x.addException(i % 3, i / 3, i % 4 < 2);
+            }
+            Checks.due("5 position " + lifted, x.liftException(lifted % 3, lifted / 3), lifted % 4 < 2);
+            for (int i = 0; i < 6; i++) {
+                Checks.due("5 position " + i + " without " + lifted, x.hasException(i % 3, i / 3), i != lifted);
+            }
+            for (int i = 5; i >= 0; i--) {
+                if (i != lifted) {
+                    Checks.due("5 position " + i + " behind " + lifted, x.liftException(i % 3, i / 3), i % 4 < 2);
+                }
+            }
+        }
     }
 
     private static void promise6SetCycle() {
@@ -149,6 +179,32 @@ public final class DoorsTest {
             Checks.fails("10 isHourOf", Checks.INDEX, () -> x.isHourOf(door, 24));
             Checks.fails("11 hourCount", Checks.INDEX, () -> x.hourCount(door));
             Checks.fails("13 hasException", Checks.INDEX, () -> x.hasException(door, 0));
+        }
+    }
+
+    /** Each door answers by its own rule, also when the rules of all have been changed. */
+    private static void promises3And8To11EveryDoor() {
+        MoonlitDoors x = new MoonlitDoors();
+        for (int door = 0; door < 8; door++) {
+            x.addDoor(1 << door, door, 2 * door + 3, 7 - door);
+        }
+        for (int door = 0; door < 8; door++) {
+            Checks.due("8 door " + door, x.phasesOf(door), 1 << door);
+            Checks.due("9 door " + door, x.keyOf(door), 7 - door);
+            Checks.due("11 door " + door, x.hourCount(door), door + 4);
+            for (int hour = 0; hour < 24; hour++) {
+                Checks.due("10 door " + door + " at " + hour, x.isHourOf(door, hour), hour >= door && hour <= 2 * door + 3);
+            }
+        }
+        for (int door = 0; door < 8; door++) {
+            Checks.due("3 key of door " + door, x.setRule(door, 255 - (1 << door), 23 - door, door, door / 2), 7 - door);
+        }
+        for (int door = 0; door < 8; door++) {
+            Checks.due("3 phases of door " + door, x.phasesOf(door), 255 - (1 << door));
+            Checks.due("3 hours of door " + door, x.hourCount(door), 2 * door + 2);
+            Checks.due("3 last hour of door " + door, x.isHourOf(door, door), true);
+            Checks.due("3 behind the last hour of door " + door, x.isHourOf(door, door + 1), false);
+            Checks.due("3 key again of door " + door, x.setRule(door, 0, 0, 0, 0), door / 2);
         }
     }
 
@@ -214,6 +270,44 @@ public final class DoorsTest {
         x.liftException(1, 5);
         x.liftException(0, 0);
         order(x, new int[][] {{2, 0}, {0, 5}, {2, 5}, {0, 9}, {1, 9}, {2, 9}, {1, 999}});
+    }
+
+    /** Four exceptions, added in each order that there is. */
+    private static void promises14And15EveryOrder() {
+        int[][] due = {{1, 4}, {2, 4}, {4, 4}, {0, 5}};
+        for (int number = 0; number < 256; number++) {
+            int[] places = {number & 3, number >> 2 & 3, number >> 4 & 3, number >> 6};
+            int seen = 1 << places[0] | 1 << places[1] | 1 << places[2] | 1 << places[3];
+            if (seen == 15) {
+                MoonlitDoors x = new MoonlitDoors();
+                for (int door = 0; door < 5; door++) {
+                    x.addDoor(0, 0, 0, 0);
+                }
+                for (int place : places) {
+                    x.addException(due[place][0], due[place][1], place % 2 == 1);
+                }
+                order(x, due);
+                for (int place = 0; place < 4; place++) {
+                    Checks.due("14 what it does", x.liftException(due[place][0], due[place][1]), place % 2 == 1);
+                }
+            }
+        }
+    }
+
+    private static void promises14And15Twelve() {
+        MoonlitDoors x = new MoonlitDoors();
+        int[][] due = new int[12][];
+        for (int i = 0; i < 12; i++) {
+            if (i < 8) {
+                x.addDoor(0, 0, 0, 0);
+            }
+            due[i] = new int[] {i % 5 + 3, i / 5};
+        }
+        for (int i = 0; i < 12; i++) {
+            int[] one = due[i * 7 % 12];
+            Checks.due("4 count", x.addException(one[0], one[1], i % 2 == 0), i + 1);
+        }
+        order(x, due);
     }
 
     private static void order(MoonlitDoors x, int[][] due) {

@@ -13,7 +13,9 @@ public final class PersonsTest {
         promise22HasKey();
         promise23KeyAt();
         promise24DoorsOfRing();
+        promises17To24EveryPerson();
         promises25And26Entries();
+        promises25And26EveryPerson();
         Checks.finish();
     }
 
@@ -185,6 +187,90 @@ public final class PersonsTest {
         Checks.due("24 open or not", x.doorsOfRing(0), 3);
         x.setRule(2, 0, 0, 0, 1);
         Checks.due("24 new key", x.doorsOfRing(0), 2);
+    }
+
+    private static boolean hasOwn(int person, int key) {
+        return (key * 3 + person * 5) % 8 < 3;
+    }
+
+    /** Each person has a ring of their own, and the doors have different keys. */
+    private static MoonlitDoors sixRings(int[] keys) {
+        MoonlitDoors x = new MoonlitDoors();
+        for (int key : keys) {
+            x.addDoor(255, 0, 23, key);
+        }
+        for (int person = 0; person < 6; person++) {
+            x.addPerson();
+            int held = 0;
+            for (int key = 7; key >= 0; key--) {
+                if (hasOwn(person, key)) {
+                    held++;
+                    Checks.due("17 keys of person " + person, x.giveKey(person, key), held);
+                }
+            }
+        }
+        return x;
+    }
+
+    private static void promises17To24EveryPerson() {
+        int[] keys = {5, 5, 1, 2, 1, 7, 3, 1};
+        MoonlitDoors x = sixRings(keys);
+        for (int person = 0; person < 6; person++) {
+            int doors = 0;
+            for (int door = 0; door < 8; door++) {
+                int due = hasOwn(person, keys[door]) ? MoonlitDoors.ENTERED : MoonlitDoors.NO_KEY;
+                doors += due == MoonlitDoors.ENTERED ? 1 : 0;
+                Checks.due("20 person " + person + " at " + door, x.wouldEnter(person, door), due);
+                Checks.due("19 person " + person + " at " + door, x.tryDoor(person, door), due);
+            }
+            Checks.due("24 person " + person, x.doorsOfRing(person), doors);
+            Checks.due("26 person " + person, x.entriesOf(person), doors);
+        }
+        for (int person = 0; person < 6; person++) {
+            int held = 0;
+            for (int key = 0; key < 8; key++) {
+                Checks.due("22 person " + person + " key " + key, x.hasKey(person, key), hasOwn(person, key));
+                if (hasOwn(person, key)) {
+                    Checks.due("23 person " + person + " at " + held, x.keyAt(person, held), key);
+                    held++;
+                }
+            }
+            takeAll(x, person, held);
+        }
+    }
+
+    private static void takeAll(MoonlitDoors x, int person, int held) {
+        int left = held;
+        for (int key = 0; key < 8; key++) {
+            int one = key;
+            if (hasOwn(person, key)) {
+                left--;
+                Checks.due("18 left of person " + person, x.takeKey(person, key), left);
+            } else {
+                Checks.fails("18 person " + person + " key " + key, Checks.ELEMENT, () -> x.takeKey(person, one));
+            }
+        }
+        Checks.due("18 none left of person " + person, x.doorsOfRing(person), 0);
+    }
+
+    private static void promises25And26EveryPerson() {
+        int[][] entries = {{0, 1, 2, 3, 4, 5}, {5, 4, 3, 2, 1, 0}, {2, 2, 2, 2, 2, 2}, {0, 0, 1, 0, 0, 1}, {3, 0, 3, 1, 0, 4}};
+        int[][] ranks = {{5, 4, 3, 2, 1, 0}, {0, 1, 2, 3, 4, 5}, {0, 1, 2, 3, 4, 5}, {2, 5, 0, 1, 3, 4}, {5, 0, 2, 3, 1, 4}};
+        for (int i = 0; i < entries.length; i++) {
+            MoonlitDoors x = new MoonlitDoors();
+            x.addDoor(255, 0, 23, 0);
+            for (int person = 0; person < 6; person++) {
+                x.addPerson();
+                x.giveKey(person, 0);
+                for (int made = 0; made < entries[i][person]; made++) {
+                    x.tryDoor(person, 0);
+                }
+            }
+            for (int rank = 0; rank < 6; rank++) {
+                Checks.due("25 rank " + rank + " of " + i, x.personByEntries(rank), ranks[i][rank]);
+                Checks.due("26 person " + rank + " of " + i, x.entriesOf(rank), entries[i][rank]);
+            }
+        }
     }
 
     private static void promises25And26Entries() {

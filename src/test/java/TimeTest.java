@@ -11,7 +11,9 @@ public final class TimeTest {
         promises33And34Limit();
         promises33And34EveryRule();
         promise35UnlockedHours();
+        promises32To35EveryDoor();
         promise36OpenDoorsFor();
+        promise36EveryPerson();
         wrongDoors();
         Checks.finish();
     }
@@ -143,6 +145,25 @@ public final class TimeTest {
         both("after 999 hours", x, 0, 999);
         x.addException(0, 41, true);
         both("a day before", x, 0, 975);
+        limitByRule();
+    }
+
+    /** The days 29 to 32, when the phase comes again, are shut; so it is day 58, in the hours from 1 or from 2. */
+    private static void limitByRule() {
+        MoonlitDoors x = new MoonlitDoors();
+        x.addDoor(1, 1, 3, 0);
+        x.addDoor(1, 2, 3, 0);
+        for (int day = 29; day <= 32; day++) {
+            x.addException(0, day, false);
+            x.addException(1, day, false);
+        }
+        x.advance(240);
+        x.advance(6 * 24 + 9);
+        both("after 1000 hours by its rule", x, 0, 1000);
+        neither("after 1001 hours by its rule", x, 1);
+        x.advance(1);
+        both("after 999 hours by its rule", x, 0, 999);
+        both("after 1000 hours by the other rule", x, 1, 1000);
     }
 
     private static void promises33And34EveryRule() {
@@ -189,6 +210,92 @@ public final class TimeTest {
         Checks.due("35 most days", x.unlockedHours(0, 99), 2 * 8 + 24 + 3 * 32);
         for (int days : new int[] {0, -1, 100, MIN, MAX}) {
             Checks.fails("35 days " + days, Checks.ARGUMENT, () -> x.unlockedHours(0, days));
+        }
+    }
+
+    /** Doors as phases, first and last hour, and exceptions as door, day, and 1 if they open. */
+    private static final int[][] RULES = {{1, 22, 5}, {6, 9, 9}, {0, 0, 23}, {255, 13, 12}, {129, 6, 17}};
+    private static final int[][] EXCEPTIONS = {{0, 1, 0}, {1, 0, 1}, {1, 4, 0}, {2, 3, 1}, {2, 5, 1}, {3, 2, 0}, {4, 1, 1}};
+
+    private static boolean unlocked(int door, int time) {
+        for (int[] exception : EXCEPTIONS) {
+            if (exception[0] == door && exception[1] == time / 24) {
+                return exception[2] == 1;
+            }
+        }
+        int phase = time / 24 % 29 * 8 / 29;
+        int hour = time % 24;
+        int first = RULES[door][1];
+        int last = RULES[door][2];
+        boolean fits = first <= last ? first <= hour && hour <= last : first <= hour || hour <= last;
+        return fits && (RULES[door][0] >> phase & 1) == 1;
+    }
+
+    private static int firstUnlocked(int door, int time) {
+        int hours = 0;
+        while (hours <= 1000 && !unlocked(door, time + hours)) {
+            hours++;
+        }
+        return hours;
+    }
+
+    private static int countUnlocked(int door, int day, int days) {
+        int count = 0;
+        for (int time = day * 24; time < (day + days) * 24; time++) {
+            count += unlocked(door, time) ? 1 : 0;
+        }
+        return count;
+    }
+
+    private static void promises32To35EveryDoor() {
+        for (int start = 0; start < 240; start += 7) {
+            MoonlitDoors x = new MoonlitDoors();
+            for (int[] rule : RULES) {
+                x.addDoor(rule[0], rule[1], rule[2], 0);
+            }
+            for (int[] exception : EXCEPTIONS) {
+                x.addException(exception[0], exception[1], exception[2] == 1);
+            }
+            for (int time = start == 0 ? 0 : x.advance(start) * 24 + x.hour(); time < start + 3; time++) {
+                for (int door = 0; door < RULES.length; door++) {
+                    everyDoor(x, door, time);
+                }
+                x.advance(1);
+            }
+        }
+    }
+
+    private static void everyDoor(MoonlitDoors x, int door, int time) {
+        String place = "door " + door + " at " + time;
+        Checks.due("32 " + place, x.isUnlocked(door), unlocked(door, time));
+        int hours = firstUnlocked(door, time);
+        if (hours > 1000) {
+            neither(place, x, door);
+        } else {
+            both(place, x, door, hours);
+        }
+        for (int days : new int[] {1, 2, 6, 99}) {
+            Checks.due("35 " + place + " for " + days, x.unlockedHours(door, days), countUnlocked(door, time / 24, days));
+        }
+    }
+
+    private static void promise36EveryPerson() {
+        MoonlitDoors x = new MoonlitDoors();
+        int[] keys = {5, 5, 1, 2, 1, 7, 3, 1};
+        for (int key : keys) {
+            x.addDoor(255, 0, 23, key);
+        }
+        x.addException(4, 0, false);
+        for (int person = 0; person < 6; person++) {
+            x.addPerson();
+            int due = 0;
+            for (int key = person; key < 8; key += 2) {
+                x.giveKey(person, key);
+            }
+            for (int door = 0; door < 8; door++) {
+                due += door != 4 && keys[door] >= person && (keys[door] - person) % 2 == 0 ? 1 : 0;
+            }
+            Checks.due("36 person " + person, x.openDoorsFor(person), due);
         }
     }
 
